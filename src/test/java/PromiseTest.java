@@ -476,6 +476,7 @@ public final class PromiseTest {
         y.mount(1, 0);
         y.go(1);
         Checks.due("both fall at its place", y.count(6), 2);
+        dueFlyer(y, 0, 3, -1, 0, -1, 0);
         Checks.due("nobody's rope wears not", y.trapeze(1, 4), 0);
         Replay z = oneHanging();
         z.cue(8, 0, 0, 1);
@@ -626,6 +627,7 @@ public final class PromiseTest {
         Checks.refuses("advise(3, 3)", BAD_INDEX, x, c -> c.advise(3, 3));
         Checks.refuses("advise(0, 0)", BAD_ARGUMENT, x, c -> c.advise(0, 0));
         adviseTriesEach();
+        adviseLooksAt200Beats();
         breakWithTwo(x, 1);
         Checks.refuses("a broken one and itself", BAD_ARGUMENT, x, c -> c.advise(1, 1));
         Checks.duePure("with a broken one", x, c -> c.advise(0, 1), -1);
@@ -660,6 +662,26 @@ public final class PromiseTest {
             kinds += one ? 1 : 0;
         }
         Checks.due("many weights are the best at times", kinds >= 5, true);
+    }
+
+    /** Found by trying all: by 9 alone the first meets in 200 beats, by 10 alone the second would in 218. */
+    private static void adviseLooksAt200Beats() {
+        CircusLines x = new CircusLines();
+        x.rig(5, 20, 8, 9);
+        x.go(10);
+        x.rig(40, 19, 0, 9);
+        Checks.due("advise(1, 0)", x.advise(1, 0), 9);
+        x.weigh(1, 9);
+        Checks.due("meets(1, 0)", x.meets(1, 0), 200);
+        CircusLines y = new CircusLines();
+        y.rig(4, 20, 9, 9);
+        y.go(13);
+        y.rig(40, 20, 0, 9);
+        Checks.due("advise(1, 0)", y.advise(1, 0), -1);
+        y.weigh(1, 10);
+        Checks.due("meets(1, 0)", y.meets(1, 0), -1);
+        y.go(18);
+        Checks.due("meets(1, 0)", y.meets(1, 0), 200);
     }
 
     private static Replay twoTrapezes(int beats, int shift) {
@@ -699,7 +721,12 @@ public final class PromiseTest {
         for (int what : new int[] {-1, 0, 1, 2, 3, 9, LOWEST, HIGHEST}) {
             Checks.refuses("foresee", BAD_INDEX, x, c -> c.foresee(1, what));
         }
-        Checks.due("go(5) as if nothing had been foreseen", x.go(5), 1);
+        x.go(1);
+        Checks.duePure("foresee with one who flies", x, c -> c.foresee(200, 7), 1);
+        Checks.due("go(4)", x.go(4), 1);
+        Checks.duePure("foresee with one who was caught", x, c -> c.foresee(200, 6), 2);
+        x.go(10);
+        Checks.duePure("foresee with a broken rope", x, c -> c.foresee(1, 4), 0);
         Checks.due("cue 1 is done", x.called(1, 4), 1);
     }
 
