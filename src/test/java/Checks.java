@@ -5,8 +5,16 @@ import java.util.function.ToIntFunction;
 final class Checks {
     private static int wrong = 0;
     private static int made = 0;
+    private static int sentences = 0;
+    private static String sentence = "";
 
     private Checks() {
+    }
+
+    /** The sentence of the document that the checks from here on would see broken: told with each that fails. */
+    static void sentence(String text) {
+        sentences++;
+        sentence = "[" + text + "] ";
     }
 
     static void due(String call, long got, long want) {
@@ -27,19 +35,53 @@ final class Checks {
         }
     }
 
-    /** The call must throw just this class, and leave the object as it was. */
-    static void refuses(String call, Class<? extends RuntimeException> want, Replay x, Consumer<CircusLines> act) {
+    static void duePlaces(Replay x, int trapeze, int... places) {
+        for (int beats = 0; beats < places.length; beats++) {
+            due("place(" + trapeze + ", " + beats + ")", x.place(trapeze, beats), places[beats]);
+        }
+    }
+
+    static void dueTrapeze(Replay x, int trapeze, int... told) {
+        for (int what = 0; what < told.length; what++) {
+            due("trapeze(" + trapeze + ", " + what + ")", x.trapeze(trapeze, what), told[what]);
+        }
+    }
+
+    static void dueFlyer(Replay x, int flyer, int... told) {
+        for (int what = 0; what < told.length; what++) {
+            due("flyer(" + flyer + ", " + what + ")", x.flyer(flyer, what), told[what]);
+        }
+    }
+
+    static void dueCalled(Replay x, int cue, int... told) {
+        for (int what = 0; what < told.length; what++) {
+            due("called(" + cue + ", " + what + ")", x.called(cue, what), told[what]);
+        }
+    }
+
+    static void dueCounts(Replay x, int... told) {
+        for (int what = 0; what < told.length; what++) {
+            due("count(" + what + ")", x.count(what), told[what]);
+        }
+    }
+
+    static void dueThrown(String call, Class<? extends RuntimeException> want, CircusLines x, Consumer<CircusLines> act) {
         made++;
-        CircusLines asked = x.fresh();
         String got = "nothing";
         try {
-            act.accept(asked);
+            act.accept(x);
         } catch (RuntimeException e) {
             got = e.getClass().getName();
         }
         if (!got.equals(want.getName())) {
             report(call + " threw " + got + ", due is " + want.getName());
         }
+    }
+
+    /** The call must throw just this class, and leave the object as it was. */
+    static void refuses(String call, Class<? extends RuntimeException> want, Replay x, Consumer<CircusLines> act) {
+        CircusLines asked = x.fresh();
+        dueThrown(call, want, asked, act);
         dueUnchanged(call, asked, x);
     }
 
@@ -69,12 +111,13 @@ final class Checks {
     static void report(String text) {
         wrong++;
         if (wrong <= 50) {
-            System.out.println(text);
+            System.out.println(sentence + text);
         }
     }
 
     static void end() {
-        System.out.println(made + " checks, " + wrong + " wrong");
+        String of = sentences == 0 ? "" : " of " + sentences + " sentences";
+        System.out.println(made + " checks" + of + ", " + wrong + " wrong");
         if (wrong != 0) {
             System.exit(1);
         }

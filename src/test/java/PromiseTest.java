@@ -7,42 +7,9 @@ public final class PromiseTest {
     private static final int HIGHEST = Integer.MAX_VALUE;
     private static final int[] NO_NUMBERS = {-1, 6, 7, 8, 20, 21, LOWEST, HIGHEST};
 
-    private static void duePlaces(Replay x, int trapeze, int... places) {
-        for (int beats = 0; beats < places.length; beats++) {
-            Checks.due("place(" + trapeze + ", " + beats + ")", x.place(trapeze, beats), places[beats]);
-        }
-    }
-
-    private static void dueTrapeze(Replay x, int trapeze, int... told) {
-        for (int what = 0; what < told.length; what++) {
-            Checks.due("trapeze(" + trapeze + ", " + what + ")", x.trapeze(trapeze, what), told[what]);
-        }
-    }
-
-    private static void dueFlyer(Replay x, int flyer, int... told) {
-        for (int what = 0; what < told.length; what++) {
-            Checks.due("flyer(" + flyer + ", " + what + ")", x.flyer(flyer, what), told[what]);
-        }
-    }
-
-    private static void dueCounts(Replay x, int... told) {
-        for (int what = 0; what < told.length; what++) {
-            Checks.due("count(" + what + ")", x.count(what), told[what]);
-        }
-    }
-
-    /** A trapeze that is at 40, 45, 50, 55, 60, 55, 50, 45 and 40 again, and a flyer who hangs from it. */
-    private static Replay oneHanging() {
-        Replay x = new Replay();
-        x.rig(50, 10, 2, 5);
-        x.join();
-        x.mount(0, 0);
-        return x;
-    }
-
     private static void promise1New() {
         Replay x = new Replay();
-        dueCounts(x, 0, 0, 0, 0, 0, 0, 0, 0, 0);
+        Checks.dueCounts(x, 0, 0, 0, 0, 0, 0, 0, 0, 0);
         Checks.due("netAt(0)", x.netAt(0), false);
         Checks.dueDouble("mean()", x.mean(), 0.0);
         for (int no : new int[] {0, -1}) {
@@ -63,7 +30,7 @@ public final class PromiseTest {
         for (int i = 0; i < right.length; i++) {
             int[] r = right[i];
             Checks.due("rig", x.rig(r[0], r[1], r[2], r[3]), i);
-            dueTrapeze(x, i, r[0], r[1], r[2], r[3], 0, 1, r[0] - r[1], 0);
+            Checks.dueTrapeze(x, i, r[0], r[1], r[2], r[3], 0, 1, r[0] - r[1], 0);
             Checks.due("count(1)", x.count(1), i + 1);
         }
         Checks.refuses("a 7th rig", BAD_STATE, x, c -> c.rig(50, 10, 2, 5));
@@ -73,7 +40,7 @@ public final class PromiseTest {
         Replay later = new Replay();
         later.go(3);
         later.rig(50, 10, 2, 5);
-        duePlaces(later, 0, 40, 45, 50, 55, 60, 55, 50, 45, 40);
+        Checks.duePlaces(later, 0, 40, 45, 50, 55, 60, 55, 50, 45, 40);
     }
 
     private static void promise3Weigh() {
@@ -83,9 +50,9 @@ public final class PromiseTest {
         x.go(3);
         Checks.due("place before", x.trapeze(0, 6), 55);
         Checks.due("weigh(0, 0)", x.weigh(0, 0), 2);
-        duePlaces(x, 0, 40, 50, 60, 50, 40);
+        Checks.duePlaces(x, 0, 40, 50, 60, 50, 40);
         Checks.due("weigh(0, 10)", x.weigh(0, 10), 0);
-        duePlaces(x, 0, 40, 41, 43, 45, 46, 48, 50, 51, 53, 55, 56, 58, 60, 59, 57);
+        Checks.duePlaces(x, 0, 40, 41, 43, 45, 46, 48, 50, 51, 53, 55, 56, 58, 60, 59, 57);
         x.go(5);
         Checks.due("weigh(0, 10) again", x.weigh(0, 10), 10);
         Checks.due("at its left end", x.trapeze(0, 6), 40);
@@ -111,7 +78,7 @@ public final class PromiseTest {
     }
 
     private static void weighSetsTheLeftEnd() {
-        Replay x = oneHanging();
+        Replay x = Scenes.oneHanging();
         x.go(1);
         Checks.due("worn at beat 0", x.trapeze(0, 4), 1);
         x.weigh(0, 2);
@@ -124,19 +91,19 @@ public final class PromiseTest {
     }
 
     private static void promise4Mend() {
-        Replay x = oneHanging();
+        Replay x = Scenes.oneHanging();
         x.rig(10, 4, 0, 1);
         x.go(9);
         Checks.due("mend of a whole one", x.mend(0), 2);
-        dueTrapeze(x, 0, 50, 10, 2, 5, 0, 1, 45, 1);
+        Checks.dueTrapeze(x, 0, 50, 10, 2, 5, 0, 1, 45, 1);
         Checks.due("mend of a new rope", x.mend(0), 0);
         x.weigh(1, 0);
         x.mount(x.join(), 1);
         x.mount(x.join(), 1);
         x.go(6);
-        dueTrapeze(x, 1, 10, 4, 0, 1, 2, 0, 14, 0);
+        Checks.dueTrapeze(x, 1, 10, 4, 0, 1, 2, 0, 14, 0);
         Checks.due("mend of a broken one", x.mend(1), 2);
-        dueTrapeze(x, 1, 10, 4, 0, 1, 0, 1, 14, 0);
+        Checks.dueTrapeze(x, 1, 10, 4, 0, 1, 0, 1, 14, 0);
         for (int no : new int[] {-1, 2, 6, LOWEST, HIGHEST}) {
             Checks.refuses("mend of none", BAD_INDEX, x, c -> c.mend(no));
         }
@@ -161,7 +128,7 @@ public final class PromiseTest {
         Replay x = new Replay();
         for (int i = 0; i < 8; i++) {
             Checks.due("join()", x.join(), i);
-            dueFlyer(x, i, 0, -1, 0, -1, 0);
+            Checks.dueFlyer(x, i, 0, -1, 0, -1, 0);
             Checks.due("count(3)", x.count(3), i + 1);
         }
         Checks.refuses("a 9th join", BAD_STATE, x, CircusLines::join);
@@ -175,7 +142,7 @@ public final class PromiseTest {
             x.join();
         }
         Checks.due("mount(1, 0)", x.mount(1, 0), 1);
-        dueFlyer(x, 1, 1, 0, 0, -1, 0);
+        Checks.dueFlyer(x, 1, 1, 0, 0, -1, 0);
         Checks.due("mount(0, 0)", x.mount(0, 0), 2);
         Checks.due("trapeze(0, 7)", x.trapeze(0, 7), 2);
         Checks.refuses("mount on a full one", BAD_STATE, x, c -> c.mount(2, 0));
@@ -195,11 +162,11 @@ public final class PromiseTest {
         Checks.refuses("mount of one who flies", BAD_STATE, x, c -> c.mount(0, 0));
         Checks.refuses("mount on a broken one", BAD_STATE, x, c -> c.mount(4, 1));
         x.go(2);
-        dueFlyer(x, 0, 3, -1, 0, -1, 0);
-        dueFlyer(x, 1, 4, -1, 0, -1, 0);
+        Checks.dueFlyer(x, 0, 3, -1, 0, -1, 0);
+        Checks.dueFlyer(x, 1, 4, -1, 0, -1, 0);
         Checks.refuses("mount of one who is hurt", BAD_STATE, x, c -> c.mount(1, 0));
         Checks.due("mount of one in a net", x.mount(0, 0), 1);
-        dueFlyer(x, 0, 1, 0, 0, -1, 0);
+        Checks.dueFlyer(x, 0, 1, 0, 0, -1, 0);
     }
 
     private static void promise8Cue() {
@@ -235,10 +202,10 @@ public final class PromiseTest {
     }
 
     private static void promise9Trapeze() {
-        Replay x = oneHanging();
-        dueTrapeze(x, 0, 50, 10, 2, 5, 0, 1, 40, 1);
+        Replay x = Scenes.oneHanging();
+        Checks.dueTrapeze(x, 0, 50, 10, 2, 5, 0, 1, 40, 1);
         x.go(3);
-        dueTrapeze(x, 0, 50, 10, 2, 5, 1, 1, 55, 1);
+        Checks.dueTrapeze(x, 0, 50, 10, 2, 5, 1, 1, 55, 1);
         for (int no : NO_NUMBERS) {
             Checks.refuses("trapeze of none", BAD_INDEX, x, c -> c.trapeze(no, 0));
         }
@@ -249,24 +216,24 @@ public final class PromiseTest {
     }
 
     private static void promise10Flyer() {
-        Replay x = oneHanging();
+        Replay x = Scenes.oneHanging();
         x.rig(70, 10, 2, 5);
-        dueFlyer(x, 0, 1, 0, 0, -1, 0);
+        Checks.dueFlyer(x, 0, 1, 0, 0, -1, 0);
         x.cue(1, 0, 20, 3);
         x.go(2);
-        dueFlyer(x, 0, 2, -1, 65, 2, 0);
+        Checks.dueFlyer(x, 0, 2, -1, 65, 2, 0);
         x.go(2);
-        dueFlyer(x, 0, 2, -1, 65, 0, 0);
+        Checks.dueFlyer(x, 0, 2, -1, 65, 0, 0);
         x.go(1);
         Checks.due("caught too far off", x.flyer(0, 0), 4);
-        Replay y = oneHanging();
+        Replay y = Scenes.oneHanging();
         y.rig(70, 10, 2, 5);
         y.cue(0, 0, 20, 4);
         y.cue(4, 0, -20, 4);
         y.go(4);
-        dueFlyer(y, 0, 2, -1, 60, 0, 0);
+        Checks.dueFlyer(y, 0, 2, -1, 60, 0, 0);
         y.go(1);
-        dueFlyer(y, 0, 1, 0, 0, -1, 1);
+        Checks.dueFlyer(y, 0, 1, 0, 0, -1, 1);
         for (int no : NO_NUMBERS) {
             Checks.refuses("flyer of none", BAD_INDEX, y, c -> c.flyer(no, 0));
         }
@@ -277,7 +244,7 @@ public final class PromiseTest {
     }
 
     private static void promise11Called() {
-        Replay x = oneHanging();
+        Replay x = Scenes.oneHanging();
         x.cue(2, 0, -7, 3);
         x.cue(2, 0, 8, 4);
         Checks.due("called(0, 4) when open", x.called(0, 4), 0);
@@ -319,9 +286,9 @@ public final class PromiseTest {
         x.cue(1, 6, 0, 1);
         x.cue(7, 0, 0, 1);
         x.cue(8, 0, 0, 1);
-        dueCounts(x, 0, 3, 3, 7, 5, 0, 0, 0, 5);
+        Checks.dueCounts(x, 0, 3, 3, 7, 5, 0, 0, 0, 5);
         x.go(2);
-        dueCounts(x, 2, 3, 2, 7, 1, 1, 2, 1, 2);
+        Checks.dueCounts(x, 2, 3, 2, 7, 1, 1, 2, 1, 2);
         for (int what : new int[] {-1, 9, LOWEST, HIGHEST}) {
             Checks.refuses("count", BAD_INDEX, x, c -> c.count(what));
         }
@@ -333,18 +300,18 @@ public final class PromiseTest {
         x.rig(0, 1, 1, 1);
         x.rig(99, 20, 10, 1);
         x.rig(3, 7, 0, 1);
-        duePlaces(x, 0, 40, 45, 50, 55, 60, 55, 50, 45, 40, 45);
-        duePlaces(x, 1, -1, -1, 0, 1, 1, 0, -1);
-        duePlaces(x, 2, 79, 82, 85, 89, 92, 95, 99, 102, 105, 109, 112, 115, 119, 116, 113, 109, 106, 103, 99, 96,
+        Checks.duePlaces(x, 0, 40, 45, 50, 55, 60, 55, 50, 45, 40, 45);
+        Checks.duePlaces(x, 1, -1, -1, 0, 1, 1, 0, -1);
+        Checks.duePlaces(x, 2, 79, 82, 85, 89, 92, 95, 99, 102, 105, 109, 112, 115, 119, 116, 113, 109, 106, 103, 99, 96,
             93, 89, 86, 83, 79);
-        duePlaces(x, 3, -4, 3, 10, 3, -4);
+        Checks.duePlaces(x, 3, -4, 3, 10, 3, -4);
         Checks.due("place(0, 500)", x.place(0, 500), 60);
         x.go(3);
-        duePlaces(x, 0, 55, 60, 55);
+        Checks.duePlaces(x, 0, 55, 60, 55);
         Checks.due("place(0, 500)", x.place(0, 500), 45);
         x.weigh(1, 1);
         breakWithTwo(x, 1);
-        duePlaces(x, 1, -1, -1, 0, 1, 1, 0, -1);
+        Checks.duePlaces(x, 1, -1, -1, 0, 1, 1, 0, -1);
         for (int no : new int[] {-1, 4, 6, LOWEST, HIGHEST}) {
             Checks.refuses("place of none", BAD_INDEX, x, c -> c.place(no, -1));
         }
@@ -369,7 +336,7 @@ public final class PromiseTest {
     }
 
     private static void promise15Go() {
-        Replay x = oneHanging();
+        Replay x = Scenes.oneHanging();
         for (int beats : new int[] {0, -1, 201, LOWEST, HIGHEST}) {
             Checks.refuses("go", BAD_ARGUMENT, x, c -> c.go(beats));
         }
@@ -377,7 +344,7 @@ public final class PromiseTest {
         x.cue(15, 0, 0, 1);
         Checks.due("go(200)", x.go(200), 0);
         Checks.due("count(0)", x.count(0), 200);
-        Replay y = oneHanging();
+        Replay y = Scenes.oneHanging();
         y.cue(0, 0, 20, 4);
         y.cue(8, 0, 0, 8 - 2);
         Checks.due("go(4), before the catch", y.go(4), 0);
@@ -438,17 +405,17 @@ public final class PromiseTest {
             x.cue(0, 0, 20, 1);
             boolean near = off >= -2 && off <= 2;
             Checks.due("catch off by " + off, x.go(2), near ? 1 : 0);
-            dueFlyer(x, 0, near ? 1 : 4, near ? 1 : -1, 0, -1, near ? 1 : 0);
+            Checks.dueFlyer(x, 0, near ? 1 : 4, near ? 1 : -1, 0, -1, near ? 1 : 0);
         }
     }
 
     private static void fallsAreByPlaces() {
         for (int place = 58; place <= 62; place++) {
-            Replay x = oneHanging();
+            Replay x = Scenes.oneHanging();
             x.spread(59, 61);
             x.cue(3, 0, place - 55, 5);
             Checks.due("go(9)", x.go(9), 0);
-            dueFlyer(x, 0, place >= 59 && place <= 61 ? 3 : 4, -1, 0, -1, 0);
+            Checks.dueFlyer(x, 0, place >= 59 && place <= 61 ? 3 : 4, -1, 0, -1, 0);
         }
     }
 
@@ -476,9 +443,9 @@ public final class PromiseTest {
         y.mount(1, 0);
         y.go(1);
         Checks.due("both fall at its place", y.count(6), 2);
-        dueFlyer(y, 0, 3, -1, 0, -1, 0);
+        Checks.dueFlyer(y, 0, 3, -1, 0, -1, 0);
         Checks.due("nobody's rope wears not", y.trapeze(1, 4), 0);
-        Replay z = oneHanging();
+        Replay z = Scenes.oneHanging();
         z.cue(8, 0, 0, 1);
         z.go(9);
         Checks.due("who let go at the left end wears it not", z.trapeze(0, 4), 1);
@@ -493,7 +460,7 @@ public final class PromiseTest {
         x.mount(0, 0);
         x.cue(0, 0, 10, 6);
         Checks.due("go(7)", x.go(7), 1);
-        dueFlyer(x, 0, 1, 0, 0, -1, 1);
+        Checks.dueFlyer(x, 0, 1, 0, 0, -1, 1);
         Replay y = new Replay();
         y.rig(20, 10, 10, 99);
         y.rig(40, 10, 1, 99);
@@ -549,7 +516,7 @@ public final class PromiseTest {
     }
 
     private static void promise17Flight() {
-        Replay x = oneHanging();
+        Replay x = Scenes.oneHanging();
         x.rig(50, 10, 2, 5);
         x.rig(62, 2, 0, 5);
         x.rig(99, 1, 0, 5);
@@ -731,7 +698,7 @@ public final class PromiseTest {
     }
 
     private static void promise20Mean() {
-        Replay x = oneHanging();
+        Replay x = Scenes.oneHanging();
         Checks.dueDouble("mean()", x.mean(), 0.0);
         x.cue(0, 0, 20, 4);
         x.go(5);

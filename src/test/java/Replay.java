@@ -84,6 +84,18 @@ final class Replay {
         return fresh().meets(a, b);
     }
 
+    int flight(int flyer, int trapeze) {
+        return fresh().flight(flyer, trapeze);
+    }
+
+    int advise(int a, int b) {
+        return fresh().advise(a, b);
+    }
+
+    int foresee(int beats, int what) {
+        return fresh().foresee(beats, what);
+    }
+
     double mean() {
         return fresh().mean();
     }
