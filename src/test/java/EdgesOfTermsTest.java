@@ -186,6 +186,33 @@ public final class EdgesOfTermsTest {
         Checks.due("worn behind 30 beats", x.trapeze(0, 4), 2);
     }
 
+    private static void wornAtItsLeftEndOnly() {
+        Checks.sentence("In the beat in which it was hung, or its counterweight was set, and each 2 * h beats later, it is at"
+            + " its left end: of each width and counterweight");
+        for (int width = 1; width <= 20; width++) {
+            for (int weight = 0; weight <= 10; weight++) {
+                CircusLines x = new CircusLines();
+                x.rig(50, width, weight, 99);
+                x.mount(x.join(), 0);
+                dueWornEachSwing(x, weight, 0);
+                x.go(1 + (width + weight) % 3);
+                int worn = x.trapeze(0, 4);
+                x.weigh(0, 10 - weight);
+                dueWornEachSwing(x, 10 - weight, worn);
+            }
+        }
+    }
+
+    /** From a beat in which trapeze 0 is at its left end: by one more in this beat, and in the one 2 * h beats later. */
+    private static void dueWornEachSwing(CircusLines x, int weight, int wornBefore) {
+        int swing = 2 * (2 + weight);
+        for (int beat = 0; beat <= swing; beat++) {
+            x.go(1);
+            int due = wornBefore + 1 + beat / swing;
+            Checks.due("worn " + beat + " beats behind its left end, counterweight " + weight, x.trapeze(0, 4), due);
+        }
+    }
+
     private static void atMost8Flyers() {
         Checks.sentence("There are at most 8, numbered likewise");
         Replay x = new Replay();
@@ -363,6 +390,7 @@ public final class EdgesOfTermsTest {
         atItsLeftEndWhenHung();
         atItsLeftEndWhenWeighed();
         atItsLeftEndByBeats();
+        wornAtItsLeftEndOnly();
         atMost8Flyers();
         atMostTwoFromOne();
         standsAsideAtFirst();
